@@ -565,13 +565,16 @@ public final class RightDesk {
             return its.denies ? allowedWithout : decided & ~allowedWithout;
         }
 
-        /** The least rank by which a rule behind all others decides none of these asks; RANKS when there is none. */
+        /**
+         * The least rank by which a rule behind all others decides none of these asks; RANKS when there is
+         * none. Ranks only grow along the row, so it must stand behind the rule that takes the last ask.
+         */
         private int idleRank(boolean denies, long asks, int w) {
             long left = asks;
             int rank = 0;
             for (int place = 0; place < count && left != NO_ASKS; place++) {
                 Rule its = at(place);
-                if (its != null && (left & its.word(w)) != NO_ASKS) {
+                if (its != null) {
                     rank = its.rankBehind(denies);
                     left &= ~its.word(w);
                 }

@@ -35,8 +35,11 @@ public final class RightDeskFace {
             "int rules()");
 
     private static final String[] RULED_OUT = {
-        "throw", "throws", "try", "catch", "finally", "synchronized", "assert", "import", "package", "protected",
-        "volatile", "native", "System", "Random", "Thread", "Object", "Exception", "hashCode", "toString", "var"};
+        "throw", "throws", "try", "catch", "finally", "synchronized", "assert", "package", "protected",
+        "volatile", "native", "Random", "Thread", "Object", "Exception", "hashCode"};
+
+    private static final Set<String> LISTED = Set.of(
+            "System.arraycopy", "Arrays.copyOf", "Arrays.copyOfRange", "Arrays.fill", "List.of");
 
     private static int wrong = 0;
 
@@ -149,13 +152,14 @@ public final class RightDeskFace {
                 refuse("the source has the sign " + sign);
             }
         }
-        Matcher library = Pattern.compile("\\b(Math|Integer|Long|Arrays|String|List)\\.(\\w+)").matcher(text);
-        Set<String> listed = Set.of("Math.max", "Math.min", "Math.abs", "Math.floorDiv", "Math.floorMod",
-                "Integer.bitCount", "Long.bitCount", "Integer.compare", "Long.compare");
+        Matcher library = Pattern.compile("\\b(System|Arrays|List|String)\\.\\w+").matcher(text);
         while (library.find()) {
-            if (!listed.contains(library.group())) {
+            if (!LISTED.contains(library.group())) {
                 refuse("the source uses " + library.group());
             }
+        }
+        if (Pattern.compile("\\b(Math|Integer|Long)\\.\\w+Exact\\b").matcher(text).find()) {
+            refuse("the source uses a function whose name ends in Exact");
         }
     }
 }

@@ -53,6 +53,7 @@ public final class RightDeskPromises {
         allowed();
         counts();
         twoObjects();
+        everyAskAlone();
         System.out.println(wrong == 0 ? "all promises are kept" : wrong + " answers are not as due");
         if (wrong != 0) {
             System.exit(1);
@@ -211,7 +212,7 @@ public final class RightDeskPromises {
         due("asks(both)", x.asks(both), 256);
         due("ask(both, 0)", x.ask(both, 0), number(0, 3, 4, 0, 0));
         due("asks(one)", x.asks(one), 1536 + 1024 - 256);
-        // Of 6144, in 24ths: graph and predicate 1/24, graph and class 1/16, predicate and class 1/24, all 1/96.
+        // Each pair, less the 64 asks of all three, which are in every pair.
         due("asks(most)", x.asks(most), 256 + 384 + 256 - 2 * 64);
         due("ask(most, 0)", x.ask(most, 0), number(0, 0, 4, 1, 0));
         int twice = x.condition(MOST, graph, graph, predicate);
@@ -613,6 +614,8 @@ public final class RightDeskPromises {
         due("one may", x.apart(6, 2), number(6, 0, 3, 0, 5));
         due("the other one may", x.apart(2, 6), number(2, 0, 3, 0, 5));
         due("neither may", x.apart(2, 3), NO);
+        due("neither may", x.apart(5, 4), NO);
+        due("neither may", x.apart(4, 5), NO);
         due("oneself", x.apart(6, 6), NO);
         x.condition(GRAPH, 0, 0, 0);
         x.rule(3, true, 5);
@@ -681,5 +684,51 @@ public final class RightDeskPromises {
         due("asks of the other", y.asks(0), 0);
         due("allowed of the other", y.allowed(), 0);
         due("allowed", x.allowed(), 768);
+    }
+
+    private static void everyAskAlone() {
+        for (int n = 0; n < 6144; n++) {
+            askAlone(n);
+        }
+    }
+
+    private static void askAlone(int n) {
+        RightDesk x = desk("all promises, ask " + n + " alone");
+        int person = n / 768;
+        int other = (person + 1 + n % 7) % 8;
+        x.condition(PERSON, person, 0, 0);
+        x.condition(GRAPH, n / 192 % 4, 0, 0);
+        x.condition(PREDICATE, n / 32 % 6, 0, 0);
+        x.condition(CLASS, n / 8 % 4, 0, 0);
+        x.condition(VERSIONS, n % 8, n % 8, 0);
+        x.condition(BOTH, 0, 1, 0);
+        x.condition(BOTH, 2, 3, 0);
+        x.condition(BOTH, 5, 6, 0);
+        int alone = x.condition(BOTH, 7, 4, 0);
+        int rest = x.condition(NOT, alone, 0, 0);
+        int always = x.condition(ALWAYS, 0, 0, 0);
+        due("asks(alone)", x.asks(alone), 1);
+        due("ask(alone, 0)", x.ask(alone, 0), n);
+        due("ask(alone, 1)", x.ask(alone, 1), NO);
+        due("ask(rest, n)", x.ask(rest, n), n == 6143 ? NO : n + 1);
+        due("within(alone, rest)", x.within(alone, rest), 0);
+        due("within(always, rest)", x.within(always, rest), 0);
+        due("within(rest, always)", x.within(rest, always), 1);
+        x.rule(6, false, rest);
+        due("idle(false, always)", x.idle(false, always), 10);
+        due("idle(false, rest)", x.idle(false, rest), 6);
+        due("apart", x.apart(person, other), n);
+        due("apart", x.apart(other, person), n + (other - person) * 768);
+        due("sees", x.sees(person, n % 8), 95);
+        x.rule(7, true, alone);
+        due("decides(1)", x.decides(1), 1);
+        due("matters(1)", x.matters(1), 0);
+        due("idle(true, alone)", x.idle(true, alone), 7);
+        due("idle(false, always)", x.idle(false, always), 7);
+        due("may", x.may(person, n / 192 % 4, n / 32 % 6, n / 8 % 4, n % 8, 1), 1);
+        x.rule(9, false, always);
+        due("matters(1)", x.matters(1), 1);
+        due("allowed", x.allowed(), 6143);
+        due("decides(0)", x.decides(0), 6143);
     }
 }
