@@ -477,7 +477,7 @@ public final class RightDesk {
             }
             Rule fresh = new Rule(count, rank, denies, condition);
             int place = placeFor(fresh);
-            for (int p = row.length - 1; p > place; p--) {
+            for (int p = row.length - 1; p > 0 && p > place; p--) {
                 row[p] = row[p - 1];
             }
             if (isBelow(place, row.length)) {

@@ -133,6 +133,9 @@ public final class RightDeskFace {
                 if (method.getParameterCount() > 7) {
                     refuse("too many parameters: " + method);
                 }
+                if (FACE.stream().anyMatch(face -> face.contains(" " + method.getName() + "("))) {
+                    refuse("a method inside bears a public name: " + method);
+                }
             }
         }
     }

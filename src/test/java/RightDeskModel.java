@@ -347,7 +347,7 @@ public final class RightDeskModel {
         int rule = some(m.rules.size());
         int person = some(8);
         boolean denies = DICE.nextBoolean();
-        switch (DICE.nextInt(11)) {
+        switch (DICE.nextInt(12)) {
             case 0 -> questionOfOneAsk();
             case 1 -> due("asks(" + condition + ")", x.asks(condition), m.asks(condition));
             case 2 -> {
@@ -367,10 +367,8 @@ public final class RightDeskModel {
                 due("apart(" + person + ", " + whom + ")", x.apart(person, whom), m.apart(person, whom));
             }
             case 9 -> due("allowed()", x.allowed(), m.allowed());
-            default -> {
-                due("conditions()", x.conditions(), m.conditions.size());
-                due("rules()", x.rules(), m.rules.size());
-            }
+            case 10 -> due("conditions()", x.conditions(), m.conditions.size());
+            default -> due("rules()", x.rules(), m.rules.size());
         }
     }
 
